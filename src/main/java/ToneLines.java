@@ -372,7 +372,7 @@ public final class ToneLines {
             return NO_SUCH_PART;
         }
         if (!ordering.inDate) {
-            ordering.reckon(derivation);
+            ordering.reckon(derivation, derivation.stageOf(derivation.size));
         }
         return what == 0 ? ordering.unlike : ordering.same;
     }
@@ -381,7 +381,7 @@ public final class ToneLines {
         if (n < 0 || n > MOST_SOURCE) {
             return NONE;
         }
-        alikes.bring(derivation, n);
+        alikes.bring(derivation, derivation.stageOf(derivation.size), n);
         return alikes.counts[n];
     }
 
@@ -389,17 +389,23 @@ public final class ToneLines {
         if (n < 0 || n > MOST_SOURCE) {
             return NONE;
         }
-        alikes.bring(derivation, n);
+        alikes.bring(derivation, derivation.stageOf(derivation.size), n);
         return alikes.firsts[n];
     }
 
     public int count(int what) {
         switch (what) {
-            case 0: return derivation.size;
-            case 1: return history.acts;
-            case 2: return tape.size;
-            case 3: return derivation.idleRules();
-            default: return NONE;
+            case 0:
+                return derivation.size;
+            case 1:
+                return history.acts;
+            case 2:
+                return tape.size;
+            case 3:
+                derivation.stageOf(derivation.size);
+                return derivation.idleRules();
+            default:
+                return NONE;
         }
     }
 
@@ -1001,10 +1007,10 @@ public final class ToneLines {
             return all;
         }
 
+        /** As bits, of RULES that stageOf has done. */
         int idleRules() {
-            stageOf(size);
             int bits = 0;
-            for (int r = 0; r < size; r++) {
+            for (int r = 0; r < ready; r++) {
                 if (changes[r] == 0) {
                     bits |= 1 << r;
                 }
@@ -1064,9 +1070,8 @@ public final class ToneLines {
             }
         }
 
-        void reckon(Derivation all) {
+        void reckon(Derivation all, Word asTheyStand) {
             int many = Math.min(all.size, MOST_ORDERED);
-            Word asTheyStand = all.stageOf(all.size);
             Word last = levels[many];
             for (int i = 0; i < many; i++) {
                 order[i] = i;
@@ -1135,11 +1140,10 @@ public final class ToneLines {
         final int[] firsts = new int[MOST_SOURCE + 1];
         private final Word row = new Word();
 
-        void bring(Derivation all, int n) {
+        void bring(Derivation all, Word whole, int n) {
             if (n < 0 || n > MOST_SOURCE || (known >> n & 1) != 0) {
                 return;
             }
-            Word whole = all.stageOf(all.size);
             int rows = 1;
             for (int i = 0; i < n; i++) {
                 rows *= 3;
@@ -1189,8 +1193,8 @@ public final class ToneLines {
         }
 
         int skipBlanks(int from) {
-            int i = Math.max(0, from);
-            while (i < size && i < MOST_BYTES && bytes[i] == ' ') {
+            int i = from;
+            while (i >= 0 && i < size && i < MOST_BYTES && bytes[i] == ' ') {
                 i++;
             }
             return i;
@@ -1349,7 +1353,7 @@ public final class ToneLines {
 
         /** Whether it is of a piece of which two must have a blank between them. */
         private static boolean needsBlank(int sign) {
-            return isLetter(sign) || digitOf(sign) != NONE;
+            return sign >= 'a' && sign <= 'z' || sign >= '0' && sign <= '9';
         }
 
         private boolean readRule(Rule rule) {
