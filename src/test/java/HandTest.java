@@ -7,6 +7,7 @@ public final class HandTest {
     cuts();
     tones();
     hushes();
+    fullWord();
     turns();
     syllables();
     marks();
@@ -89,6 +90,27 @@ public final class HandTest {
     state(x, "/oo/", 3);
     x.tone(0, 2);
     Check.due("a TONE that comes has no LINES", Check.spelled(x, 0), "h/oo/");
+  }
+
+  /** A WORD as full as can be: every call at its last places. */
+  private static void fullWord() {
+    ToneLines x = Check.made("hhhhhhhhhhhh/oooooooooooo/11:11", "link right; drop any; fill low;");
+    Check.due("has(0, 2)", x.has(0, 2), 1);
+    Check.due("has(0, 6)", x.has(0, 6), 1);
+    Check.due("has(0, 7)", x.has(0, 7), 1);
+    Check.due("toneAt(0, 11, 4)", x.toneAt(0, 11, 4), 9);
+    Check.due("syllableAt(0, 11, 4)", x.syllableAt(0, 11, 4), 11);
+    Check.due("open(0, 10, 11)", x.open(0, 10, 11), 1);
+    Check.due("has(3, 2)", x.has(3, 2), 12);
+    Check.due("turn(11, 0)", x.turn(11, 0), 2);
+    Check.due("mark(11)", x.mark(11, true, true), true);
+    Check.due("cut(11, 11)", x.cut(11, 11), true);
+    Check.due("line(11, 11)", x.line(11, 11), true);
+    Check.due("hush(0)", x.hush(0), true);
+    state(x, "hhhhhhhhhhl/ooooooooooo-O/10:11", 5);
+    Check.due("undo()", x.undo(), 4);
+    Check.due("shrink()", x.shrink(), true);
+    state(x, "hhhhhhhhhhhl/ooooooooooo/", 5);
   }
 
   private static void turns() {

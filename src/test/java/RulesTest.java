@@ -5,6 +5,7 @@ public final class RulesTest {
   public static void main(String[] args) {
     rule();
     done();
+    doneOfTheLast();
     exchanged();
     needed();
     orders();
@@ -57,6 +58,12 @@ public final class RulesTest {
     Check.due("done(3, 0)", x.done(3, 0), -1);
     for (int odd : ODD) Check.due("done(odd, 0)", x.done(odd, 0), -1);
     Check.due("the WORD stays", Check.spelled(x, 0), "h/oooo/0:0");
+  }
+
+  private static void doneOfTheLast() {
+    ToneLines x = Check.made("h/oooo/0:0", "shift high right; again shift high right;");
+    Check.due("done(1, 1), asked first", x.done(1, 1), 3);
+    Check.due("done(1, 0)", x.done(1, 0), 4);
   }
 
   private static void exchanged() {

@@ -100,6 +100,7 @@ public final class ToldTest {
     fault("/-x/", 2);
     fault("/oh/", 2);
     fault("/o0/", 2);
+    fault("h/o0:0", 3);
     fault("/ooooooooooooo/", 13);
     fault("/ooooooooooooO/", 13);
     fault("/oooooooooooo-o/", 14);
@@ -190,6 +191,10 @@ public final class ToldTest {
     ruleFault("agains drop low;", 0);
     ruleFault("dropx low;", 0);
     ruleFault("droplow;", 0);
+    ruleFault("dropz low;", 0);
+    ruleFault("zdrop low;", 0);
+    ruleFault("drop low{", 8);
+    ruleFault("drop`low;", 4);
     ruleFault("dro", 0);
     ruleFault("Drop low;", 0);
     ruleFault("dropX low;", 4);
@@ -223,6 +228,9 @@ public final class ToldTest {
     ruleFault("fill;", 4);
     ruleFault("flat first;", 5);
     ruleFault("flat 1first;", 6);
+    ruleFault("flat 9first;", 6);
+    ruleFault("flat9 first;", 4);
+    ruleFault("flat : first;", 5);
     ruleFault("flat1 first;", 4);
     ruleFault("flat 1 right;", 7);
     ruleFault("flat 0 first;", 5);
