@@ -683,8 +683,10 @@ public final class ToneLines {
         /** How many LINES each SYLLABLE has: with kindsRead it tells all that is READ. */
         long linesRead() {
             long read = 0;
-            for (int s = 0; s < syllables; s++) {
-                read = read * 16 + Integer.bitCount(tonesOf(s));
+            for (int t = 0; t < tones; t++) {
+                for (int rest = lines[t]; rest != 0; rest &= rest - 1) {
+                    read += 1L << 4 * lowest(rest);
+                }
             }
             return read;
         }
@@ -1072,6 +1074,8 @@ public final class ToneLines {
 
         void reckon(Derivation all, Word asTheyStand) {
             int many = Math.min(all.size, MOST_ORDERED);
+            long dueKinds = asTheyStand.kindsRead();
+            long dueLines = asTheyStand.linesRead();
             Word last = levels[many];
             for (int i = 0; i < many; i++) {
                 order[i] = i;
@@ -1085,8 +1089,10 @@ public final class ToneLines {
                     levels[k + 1].copyFrom(levels[k]);
                     all.doer.perform(all.list[order[k]], levels[k + 1]);
                 }
-                enter(last.kindsRead(), last.linesRead());
-                same += last.isReadAs(asTheyStand) ? 1 : 0;
+                long kinds = last.kindsRead();
+                long lines = last.linesRead();
+                enter(kinds, lines);
+                same += kinds == dueKinds && lines == dueLines ? 1 : 0;
                 from = nextOrder(many);
             }
             inDate = true;
@@ -1148,6 +1154,8 @@ public final class ToneLines {
             for (int i = 0; i < n; i++) {
                 rows *= 3;
             }
+            long dueKinds = whole.kindsRead();
+            long dueLines = whole.linesRead();
             counts[n] = 0;
             firsts[n] = NO_SUCH_PART;
             for (int number = 0; number < rows; number++) {
@@ -1155,7 +1163,7 @@ public final class ToneLines {
                 for (int r = 0; r < all.size; r++) {
                     all.doer.perform(all.list[r], row);
                 }
-                if (row.isReadAs(whole)) {
+                if (row.kindsRead() == dueKinds && row.linesRead() == dueLines) {
                     firsts[n] = counts[n] == 0 ? number : firsts[n];
                     counts[n]++;
                 }

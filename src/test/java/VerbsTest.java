@@ -73,6 +73,8 @@ public final class VerbsTest {
     nothing("h/o-o/0:0", "shift high right;");
     nothing("h/o-o/0:1", "shift high left;");
     nothing("h/oo/0:1", "shift high right;");
+    nothing("h/oo/0:0 0:1", "shift high right;");
+    nothing("h/ooo/0:0 0:1", "shift high left;");
     nothing("h/oo/", "shift any left;");
     nothing("m/oo/0:0", "shift high right;");
   }
