@@ -1,9 +1,17 @@
+import java.io.IOException;
 import java.nio.charset.StandardCharsets;
+import java.nio.file.Files;
+import java.nio.file.Path;
 
 /** What the tests share: telling texts by feed and back, and counting answers that are not due. */
 final class Check {
   static int right = 0;
   static int wrong = 0;
+  /** The sentence of the document that is tested; empty, where a test is of none alone. */
+  private static String sentence = "";
+  private static int sentences = 0;
+  private static int answersAhead = 0;
+  private static String document = "";
 
   private Check() { }
 
@@ -12,6 +20,7 @@ final class Check {
       right++;
     } else {
       wrong++;
+      if (!sentence.isEmpty()) System.out.print("[" + sentence + "] ");
       System.out.println(call + " answered " + got + ", due is " + want);
     }
   }
@@ -23,6 +32,35 @@ final class Check {
   static void due(String call, String got, String want) {
     boolean same = got.equals(want);
     due(same ? call : call + " answered '" + got + "', due is '" + want + "': alike", same, true);
+  }
+
+  /**
+   * The tests that follow, up to the next sentence, are of this one. It stands in the document word
+   * for word, so that a test can't outlive what it is of, and has one test at least.
+   */
+  static void sentence(String words) {
+    endSentence();
+    sentence = words;
+    sentences++;
+    due("the document has it", document().contains(words), true);
+    answersAhead = right + wrong;
+  }
+
+  private static void endSentence() {
+    if (!sentence.isEmpty()) due("it has a test", right + wrong > answersAhead, true);
+    sentence = "";
+  }
+
+  private static String document() {
+    if (document.isEmpty()) {
+      try {
+        document = Files.readString(Path.of("../shared/DOC.md")).replaceAll("\\s+", " ");
+      } catch (IOException e) {
+        due("reading ../shared/DOC.md: " + e, false, true);
+        document = " ";
+      }
+    }
+    return document;
   }
 
   /** Five numbers for feed from 20 bytes of a text, blanks where it is over. */
@@ -79,7 +117,9 @@ final class Check {
   }
 
   static void end(String name) {
-    System.out.println(name + ": " + right + " answers as due, " + wrong + " not");
+    endSentence();
+    String of = sentences > 0 ? sentences + " sentences, " : "";
+    System.out.println(name + ": " + of + right + " answers as due, " + wrong + " not");
     if (wrong != 0) System.exit(1);
   }
 }
