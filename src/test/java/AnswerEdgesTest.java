@@ -115,6 +115,14 @@ public final class AnswerEdgesTest {
     // The same KINDS in all, at others.
     Check.due("l from 0 to 1", Check.made("hl/oo/0:0 1:0", "shift low right;").needed(), 1);
     Check.due("no SYLLABLES", Check.made("hh//", "fuse high;").needed(), 0);
+    // As many TONES of one KIND: all at SYLLABLE 1, but without cut the last at 2 and all others at 0.
+    String rules = "drop low; cut any last if not end; shift any left; dock any right;";
+    for (int tones = 2; tones <= 12; tones++) {
+      String word = "h".repeat(tones) + "/ooo/" + (tones - 2) + ":1 " + (tones - 1) + ":2";
+      ToneLines x = Check.made(word, rules);
+      Check.due("TONES of SYLLABLE 1", x.syllableAt(4, 1, 2), tones);
+      Check.due("needed() of " + word, x.needed(), 14);
+    }
   }
 
   private static void orders(String word, String rules, int unlike, int same) {

@@ -1,6 +1,10 @@
 import java.nio.file.Files;
 import java.nio.file.Path;
+import java.util.HashMap;
 import java.util.List;
+import java.util.Map;
+import java.util.Set;
+import java.util.TreeSet;
 import java.util.regex.Matcher;
 import java.util.regex.Pattern;
 
@@ -25,6 +29,9 @@ public final class LanguageTest {
     while (imports.find()) Check.due("the import", imports.group(), "import java.util.Arrays;");
     classes(code);
     methods(code);
+    library(code);
+    statics(code);
+    calls(code);
     Check.end("LanguageTest");
   }
 
@@ -33,6 +40,58 @@ public final class LanguageTest {
     int classes = 0;
     while (m.find()) classes++;
     Check.due("classes, 12 at most: " + classes, classes <= 12, true);
+  }
+
+  private static void library(String code) {
+    Set<String> may = Set.of("Integer.bitCount", "Math.max", "Math.min", "System.arraycopy", "Arrays.fill");
+    Matcher m = Pattern.compile("\\b[A-Z][a-z]\\w*\\.[a-z]\\w*(?=\\()").matcher(code);
+    while (m.find()) Check.due(m.group() + " is in the list", may.contains(m.group()), true);
+  }
+
+  private static void statics(String code) {
+    Matcher m = Pattern.compile("(?m)^ *(\\w+ )*static [^(\n]*=[^\n]*$").matcher(code);
+    int found = 0;
+    while (m.find()) {
+      found++;
+      boolean constant = m.group().matches(" *(public|private) static final (int|String) [A-Z_]+ = [^;]*;");
+      Check.due("a constant: " + m.group().trim(), constant, true);
+    }
+    Check.due("constants are found: " + found, found > 40, true);
+  }
+
+  /** Which methods a method calls, by their names alone: methods of one name count as one. */
+  private static Map<String, Set<String>> graph(String code) {
+    Map<String, Set<String>> all = new HashMap<>();
+    String now = "";
+    for (String row : code.split("\n")) {
+      Matcher head = Pattern.compile("^(?: {4}| {8})(?! )(?:[\\w\\[\\]]+ )+(\\w+)\\([^)]*\\) \\{$").matcher(row);
+      if (head.find()) {
+        now = head.group(1);
+        all.putIfAbsent(now, new TreeSet<>());
+        continue;
+      }
+      Matcher call = Pattern.compile("(?<!new )\\b([a-z]\\w*)\\(").matcher(row);
+      while (!now.isEmpty() && call.find()) all.get(now).add(call.group(1));
+    }
+    return all;
+  }
+
+  /** No method comes to itself again, and calls go eight deep at most. */
+  private static void calls(String code) {
+    Map<String, Set<String>> all = graph(code);
+    Check.due("methods are found: " + all.size(), all.size() > 80, true);
+    int deepest = 0;
+    for (String name : all.keySet()) deepest = Math.max(deepest, depth(all, name, 0));
+    Check.due("calls go eight deep at most: " + deepest, deepest <= 8, true);
+  }
+
+  private static int depth(Map<String, Set<String>> all, String name, int open) {
+    if (open > 20) return open;
+    int deepest = 0;
+    for (String other : all.get(name)) {
+      if (all.containsKey(other)) deepest = Math.max(deepest, depth(all, other, open + 1));
+    }
+    return deepest + 1;
   }
 
   private static void methods(String code) {

@@ -335,6 +335,14 @@ public final class PromiseEdgesTest {
     is(x, "h/" + ROW + "/0:11", 2);
     Check.due("undo(), all of them", x.undo(), 1);
     is(x, "h/" + ROW + "/0:8", 1);
+    // What was asked by more RULES ahead of it doesn't count.
+    x = Check.made("h/" + ROW + "/0:0", "shift any right;".repeat(8));
+    Check.due("asked by 8", x.toneAt(8, 0, 1), 8);
+    Check.due("derive(3) behind that", x.derive(3), 6);
+    is(x, "h/" + ROW + "/0:3", 1);
+    Check.due("asked by 8", x.toneAt(8, 0, 1), 11);
+    Check.due("derive(0) behind that", x.derive(0), 0);
+    is(x, "h/" + ROW + "/0:3", 1);
     x = Check.made("h/o/", "");
     Check.due("derive(0) without RULES", x.derive(0), 0);
     Check.due("derive(1) without RULES", x.derive(1), -1);
@@ -369,7 +377,8 @@ public final class PromiseEdgesTest {
   }
 
   private static void has() {
-    Check.sentence("6 the most TONES of one SYLLABLE, 7 the most SYLLABLES of one TONE, 8 how many SYLLABLES from the first"
+    Check.sentence("0 TONES, 1 SYLLABLES, 2 LINES, 3 TONES that FLOAT (bits), 4 SYLLABLES that are BARE (bits), 5 FALLS, 6"
+        + " the most TONES of one SYLLABLE, 7 the most SYLLABLES of one TONE, 8 how many SYLLABLES from the first"
         + " on have a TONE, up to the first that is BARE. NONE for others.");
     has("//", 0, 0, 0, 0, 0, 0, 0, 0, 0);
     has("h//", 1, 0, 0, 1, 0, 0, 0, 0, 0);
@@ -393,11 +402,15 @@ public final class PromiseEdgesTest {
     ToneLines x = Check.made("hl/" + ROW + "/0:0 0:11", "");
     int[][] want = {{2, 0, 11, 2, 9}, {0, -2, -2, 0, 3}};
     for (int t = 0; t < 2; t++) {
-      for (int what = 0; what < 5; what++) Check.due("toneAt(0, " + t + ", " + what + ")", x.toneAt(0, t, what), want[t][what]);
+      for (int what = 0; what < 5; what++) {
+        Check.due("toneAt(0, " + t + ", " + what + ")", x.toneAt(0, t, what), want[t][what]);
+      }
       for (int no : new int[] {-1, 5, 6, 36, MOST, LEAST}) Check.due("toneAt(0, 0, " + no + ")", x.toneAt(0, t, no), -1);
     }
     for (int no : NO_SUCH) {
-      for (int what = -1; what < 6; what++) Check.due("toneAt(0, " + no + ", " + what + ")", x.toneAt(0, no, what), what == 4 ? -100 : -1);
+      for (int what = -1; what < 6; what++) {
+        Check.due("toneAt(0, " + no + ", " + what + ")", x.toneAt(0, no, what), what == 4 ? -100 : -1);
+      }
     }
     Check.due("toneAt(0, 2, 4)", x.toneAt(0, 2, 4), -100);
     Check.due("toneAt(1, 0, 4), no such n", x.toneAt(1, 0, 4), -1);
@@ -417,7 +430,9 @@ public final class PromiseEdgesTest {
     ToneLines x = Check.made("lmh/O-o/0:0 2:0", "");
     int[][] want = {{1, 0, 2, 0, 2, 1 + 4 * 3}, {0, 1, 0, -2, -2, 0}};
     for (int s = 0; s < 2; s++) {
-      for (int what = 0; what < 6; what++) Check.due("syllableAt(0, " + s + ", " + what + ")", x.syllableAt(0, s, what), want[s][what]);
+      for (int what = 0; what < 6; what++) {
+        Check.due("syllableAt(0, " + s + ", " + what + ")", x.syllableAt(0, s, what), want[s][what]);
+      }
       for (int no : new int[] {-1, 6, 7, 37, MOST, LEAST}) Check.due("syllableAt(0, s, " + no + ")", x.syllableAt(0, s, no), -1);
     }
     for (int no : NO_SUCH) {
@@ -587,6 +602,7 @@ public final class PromiseEdgesTest {
     for (int no : NO_SUCH) Check.due("sources(" + no + ")", x.sources(no), -1);
     Check.due("sources(7)", x.sources(7), -1);
     Check.due("sources(6) of a new one", new ToneLines().sources(6), 729);
+    Check.due("sources(0) of a new one", new ToneLines().sources(0), 1);
   }
 
   private static void source() {

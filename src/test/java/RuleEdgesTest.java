@@ -87,8 +87,13 @@ public final class RuleEdgesTest {
     fault("spread any left 1 2;", 18);
     fault("spread any left 11;", 17);
     fault("spread any left 01;", 16);
-    fault("flat1 first;", 4);
-    fault("flat 1first;", 6);
+    for (int n = 0; n <= 9; n++) {
+      fault("flat" + n + " first;", 4);
+      fault("spread any left" + n + ";", 15);
+      if (n > 0) fault("flat " + n + "first;", 6);
+      if (n > 0) fault("spread any left " + n + "if end;", 17);
+      if (n > 0) fault("spread any left 1" + n + ";", 17);
+    }
     fault("flat 1 first2;", 12);
     fault("flat 1 first 2;", 13);
     fault("again1 drop low;", 5);

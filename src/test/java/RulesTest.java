@@ -12,6 +12,7 @@ public final class RulesTest {
     sources();
     count();
     keptAnswers();
+    keptByEachCall();
     Check.end("RulesTest");
   }
 
@@ -204,5 +205,42 @@ public final class RulesTest {
     x.derive(1);
     Check.due("sources(2) of a WORD derived", x.sources(2), 9);
     Check.due("count(3) of it", x.count(3), 1);
+  }
+
+  /** Each call that may change something, and behind it all answers as of a new object told the same. */
+  private static void keptByEachCall() {
+    String first = "link right; again spread any right 1; fill low; turn low to mid;";
+    ToneLines x = Check.made("hl/oo-oO/1:2", first);
+    asOfANewOne(x, first);
+    boolean[] done = {
+      x.line(0, 1), asOfANewOne(x, first), x.cut(0, 1), asOfANewOne(x, first), x.tone(1, 1), asOfANewOne(x, first),
+      x.hush(0), asOfANewOne(x, first), x.turn(0, 2) == 1, asOfANewOne(x, first), x.grow(true, false),
+      asOfANewOne(x, first), x.shrink(), asOfANewOne(x, first), x.mark(2, true, false), asOfANewOne(x, first),
+      x.does(1) > 0, asOfANewOne(x, first), x.undo() == 8, asOfANewOne(x, first), x.derive(3) > 0,
+      asOfANewOne(x, first), Check.word(x, "lh/ooo/") == 2, asOfANewOne(x, first),
+    };
+    for (int i = 0; i < done.length; i++) Check.due("call " + i + " of a row", done[i], true);
+    String others = "fill high; link left;";
+    Check.due("other RULES", Check.rules(x, others), 2);
+    asOfANewOne(x, others);
+  }
+
+  private static boolean asOfANewOne(ToneLines x, String rules) {
+    String word = Check.spelled(x, 0);
+    ToneLines other = Check.made(word, rules);
+    int many = other.count(0);
+    for (int n = 0; n <= many; n++) {
+      Check.due(word + " by " + n, Check.spelled(x, n), Check.spelled(other, n));
+      Check.due("done(" + n + ", 0) of " + word, x.done(n, 0), other.done(n, 0));
+      Check.due("done(" + n + ", 1) of " + word, x.done(n, 1), other.done(n, 1));
+      Check.due("exchanged(" + n + ") of " + word, x.exchanged(n), other.exchanged(n));
+      Check.due("sources(" + n + ") of " + word, x.sources(n), other.sources(n));
+      Check.due("source(" + n + ") of " + word, x.source(n), other.source(n));
+    }
+    Check.due("needed() of " + word, x.needed(), other.needed());
+    Check.due("count(3) of " + word, x.count(3), other.count(3));
+    Check.due("orders(0) of " + word, x.orders(0), other.orders(0));
+    Check.due("orders(1) of " + word, x.orders(1), other.orders(1));
+    return true;
   }
 }

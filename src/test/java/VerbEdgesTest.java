@@ -209,8 +209,8 @@ public final class VerbEdgesTest {
   }
 
   private static void spreadRight() {
-    Check.sentence("on right the SYLLABLE behind LAST gets a LINE, as long as it is BARE, OPEN, has no EDGE, N times at"
-        + " most (then LAST is that)");
+    Check.sentence("spread: each TONE of K that has LINES: on right the SYLLABLE behind LAST gets a LINE, as long as it is"
+        + " BARE, OPEN, has no EDGE, N times at most (then LAST is that)");
     for (int n = 1; n <= 9; n++) becomes(spread(0, 0), "spread any right " + n + ";", spread(0, n), n);
     becomes(spread(3, 3), "spread any right 8;", spread(3, 11), 8);
     becomes(spread(3, 3), "spread any right 9;", spread(3, 11), 8);
@@ -367,8 +367,8 @@ public final class VerbEdgesTest {
   }
 
   private static void flat() {
-    Check.sentence("as long as one has more than N LINES, that of its first TONE goes (flat N first), of its last one"
-        + " (flat N last).");
+    Check.sentence("flat: SYLLABLES from the first on: as long as one has more than N LINES, that of its first TONE goes"
+        + " (flat N first), of its last one (flat N last).");
     for (int n = 1; n <= 9; n++) {
       becomes(stack(0, 11), "flat " + n + " first;", stack(12 - n, 11), 12 - n);
       becomes(stack(0, 11), "flat " + n + " last;", stack(0, n - 1), 12 - n);
